@@ -21,7 +21,7 @@ public final class DiscLines {
     private final State[] images = {new State(), new State()};
     private final boolean[] kept = new boolean[IMAGES];
     private final Eye eye = new Eye();
-    private final int[] unlikeDrawings = new int[WORLDS];
+    private final int[] drawings = new int[LAWS * WORLDS];
     private long above = 0;
     private long below = 1;
 
@@ -283,7 +283,8 @@ public final class DiscLines {
         int inSome = 0;
         for (int w = 0; w < WORLDS; w++) {
             if (has(worlds, w)) {
-                int lines = plainLines(0, w, 0);
+                eye.picture.takeWorld(now.worlds[w], 0, 0, 0);
+                int lines = eye.linesOf(now.laws[0], now.marks, 0);
                 inAll &= lines;
                 inSome |= lines;
             }
@@ -302,8 +303,9 @@ public final class DiscLines {
         int pair = 0;
         int most = 0;
         for (int glass = 0; glass < GLASSES; glass++) {
+            drawByAllLaws(worlds, glass);
             for (int law = 0; law < LAWS; law++) {
-                int unlike = waysDrawn(worlds, law, glass);
+                int unlike = countUnlike(worlds, law);
                 if (unlike > most) {
                     most = unlike;
                     pair = 10 * glass + law;
@@ -433,15 +435,9 @@ public final class DiscLines {
         eye.look(now.laws[law], now.marks);
     }
 
-    private int plainLines(int law, int world, int glass) {
-        look(law, world, 0, glass, 0);
-        return eye.linesIfShown(0);
-    }
-
     private int linesFromFar(int law, int world, int f) {
         eye.picture.takeSpots(now.worlds[world], now.marks, f);
-        eye.look(now.laws[law], now.marks);
-        return eye.linesIfShown(0);
+        return eye.linesOf(now.laws[law], now.marks, 0);
     }
 
     private int guessesAllowing(int sheets) {
@@ -469,27 +465,34 @@ public final class DiscLines {
         return true;
     }
 
-    private int waysDrawn(int worlds, int law, int glass) {
-        int unlike = 0;
+    private void drawByAllLaws(int worlds, int glass) {
         for (int w = 0; w < WORLDS; w++) {
             if (has(worlds, w)) {
-                unlike = addIfUnlike(unlike, plainLines(law, w, glass));
+                eye.picture.takeWorld(now.worlds[w], 0, glass, 0);
+                for (int law = 0; law < LAWS; law++) {
+                    drawings[WORLDS * law + w] = eye.linesOf(now.laws[law], now.marks, 0);
+                }
+            }
+        }
+    }
+
+    private int countUnlike(int worlds, int law) {
+        int unlike = 0;
+        for (int w = 0; w < WORLDS; w++) {
+            if (has(worlds, w) && !isDrawnAhead(worlds, law, w)) {
+                unlike++;
             }
         }
         return unlike;
     }
 
-    private int addIfUnlike(int size, int lines) {
-        for (int i = 0; i < size && i < WORLDS; i++) {
-            if (unlikeDrawings[i] == lines) {
-                return size;
+    private boolean isDrawnAhead(int worlds, int law, int world) {
+        for (int w = 0; w < world; w++) {
+            if (has(worlds, w) && drawings[WORLDS * law + w] == drawings[WORLDS * law + world]) {
+                return true;
             }
         }
-        if (!isOneOf(size, WORLDS)) {
-            return size;
-        }
-        unlikeDrawings[size] = lines;
-        return size + 1;
+        return false;
     }
 
     private static long waysToShare(int chosen, int inSecond, int atLeast) {
@@ -1186,7 +1189,7 @@ public final class DiscLines {
             return linesOfUnshown & ~shown | linesOfShown & shown;
         }
 
-        private int linesOf(Law law, int[] marks, int wasShown) {
+        int linesOf(Law law, int[] marks, int wasShown) {
             if (law.fault != NONE) {
                 return 0;
             }

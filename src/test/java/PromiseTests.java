@@ -38,6 +38,7 @@ public final class PromiseTests {
         weighed();
         season();
         images();
+        imagesOfUnlikePasts();
         count();
         digest();
         System.out.println(wrong == 0 ? "all promises hold" : wrong + " answers are not as due");
@@ -275,7 +276,7 @@ public final class PromiseTests {
         String[] truths = {"1", "-1", "2|0", "2&3", "(2&3)=1", "(2|0)=1", "!0", "!!5=1", "!5=0", "7/2=3", "-7/2=-3",
             "0-7/2=-3", "5/0=0", "1/0+1", "2+3*4=14", "(2+3)*4=20", "10-2-3=5", "100/5/2=10", "2*3/4=1", "-2*3=-6",
             "1--1=2", "1<2", "2>1", "1=1", "0|1<2", "1|0&0", "!(1<0)", "3-3<1", "(1<2)+(2<3)=2", "!1+1", "-(2)=0-2",
-            "999999*999999*999999*16>0|1", "(0|0)=0", "007=7"};
+            "!(2>2)", "(3>2)=1", "(3=3)=1", "(2<3)=1", "999999*999999*999999*16>0|1", "(0|0)=0", "007=7"};
         String[] falsities = {"0", "1-1", "!1", "0|0", "1&0", "2>3", "2<2", "1=2", "(2&3)=2", "(1|0)&0", "5/0",
             "1/2", "-1/2", "!2", "!(1|0)", "1-1&1/0", "(2|3)=3"};
         DiscLines x = new DiscLines();
@@ -838,6 +839,52 @@ public final class PromiseTests {
             refused(x, before, "32: bad", x.image(b), -2);
             refused(x, before, "33: bad", x.from(b), -2);
         }
+    }
+
+    /** Fills every part of a new past with numbers that hang on v (0 or 1). */
+    private static void fill(DiscLines x, int v) {
+        for (int w = 0; w < 4; w++) {
+            x.shade(w, 80 - v, w + v + 1);
+            x.green(w, 8 - v, w + v + 1);
+            law(x, w, v == 0 ? "k&b<9" : "a|k");
+        }
+        x.mark(7, 79 + v);
+        x.observer(v, 5 + v);
+        x.observer(1 - v, 3 + v);
+        for (int i = 0; i < 4; i++) {
+            x.sheet((i + v) % 2, 10 * i + v, 5 + 2 * v + i);
+            x.show(i, (i + v + 1) % 2, 10 * i + 5 * v + 1);
+            x.show(v, v, 50 + v);
+            x.guess((i + v) % 4, (i + 2 * v) % 4, (i + 3 * v) % 4);
+        }
+        x.own(20 + v);
+        x.error(10 + v);
+    }
+
+    private static void imagesOfUnlikePasts() {
+        DiscLines x = new DiscLines();
+        long empty = x.digest();
+        x.image(0);
+        fill(x, 0);
+        long first = x.digest();
+        int drawn = x.drawn(1, 0, 0, 0, 0, 0x555);
+        int shown = x.of(3, 3);
+        int took = x.took(3, 0);
+        int may = x.mayBe(15);
+        x.image(1);
+        x.from(0);
+        due("33: empty", x.digest(), empty);
+        fill(x, 1);
+        long second = x.digest();
+        x.image(0);
+        x.from(1);
+        due("33: the first past", x.digest(), first);
+        due("33: drawn", x.drawn(1, 0, 0, 0, 0, 0x555), drawn);
+        due("33: shown", x.of(3, 3), shown);
+        due("33: took", x.took(3, 0), took);
+        due("33: may be", x.mayBe(15), may);
+        x.from(0);
+        due("33: the second past", x.digest(), second);
     }
 
     private static void count() {
