@@ -107,6 +107,7 @@ public final class BoundaryTests {
 
     private static void drawing() {
         truths();
+        whatBindsMore();
         sumsWrap();
         divisions();
         distances();
@@ -758,7 +759,7 @@ public final class BoundaryTests {
         Object[][] texts = {{"x", 1}, {")", 1}, {"+1", 1}, {"1)", 11}, {"()", 11}, {"1 1", 21}, {"11a", 21}, {"a1", 11},
             {"1<1<1", 31}, {"1=1=1", 31}, {"1>1<1", 31}, {"1<=1", 21}, {"1!1", 11}, {"1(1)", 11}, {"(1)1", 31},
             {"1++1", 21}, {"1-*1", 21}, {"1&|1", 21}, {"(1<1<1)", 41}, {"1+x+y", 21}, {"e", 1}, {"c", 1}, {"f", 1},
-            {"A", 1}, {"1.", 11}, {"1\t", 11}, {"1\n1", 11}, {"\0", 1}, {"1\u007f", 11}, {"1:", 11}, {"1;", 11}, {"(1]", 21}};
+            {"A", 1}, {"1.", 11}, {"1\t", 11}, {"1\n1", 11}, {"\0", 1}, {"1\0", 11}, {"1\u007f", 11}, {"1:", 11}, {"1;", 11}, {"(1]", 21}};
         for (Object[] t : texts) {
             due("9: can not stand: " + t[0], faultOf((String) t[0]), (Integer) t[1]);
         }
@@ -837,6 +838,14 @@ public final class BoundaryTests {
         }
         for (String text : new String[] {"0", "-0", "!1", "!-1", "!2", "0|0", "1&0", "0&1", "2<2", "2>2", "2=3", "1-1"}) {
             due("10: no truth: " + text, drawnBy(text), 0);
+        }
+    }
+
+    // Terms: "BOTHS with | between", "HELDS with & between", "TERMS with + or -", "UNITS with * or /"
+    private static void whatBindsMore() {
+        for (String text : new String[] {"1|0&0", "1|1&0", "0&0|1", "0=0&1", "0|0=0", "2=1+1", "1+2*3=7", "7-4/2=5", "7-4-2=1",
+            "8/4*2=4", "-1+1=0", "-2*3=-6", "!0+1=2", "!0*0=0", "(1|0)&1", "!(1|0)=0", "(7-4)*2=6", "(1+1=2)+1=2"}) {
+            due("10: " + text, drawnBy(text), ALL);
         }
     }
 
@@ -988,6 +997,9 @@ public final class BoundaryTests {
         due("12: 1 and 2 are like, either way apart", x.fairest(1, 0, 0, 0), 1);
         due("12: by one line", x.fairest(1, 0, 0, 1), 1);
         due("12: empty laws", x.fairest(2, 3, 0, 1), 0);
+        law(x, 2, "g>3");
+        due("12: there is no f 4", x.fairest(2, 3, 0, 0), 0);
+        due("12: there is no f 4", x.fairest(2, 3, 0, 1), 0);
     }
 
     // ---- observers, sheets
@@ -1612,6 +1624,9 @@ public final class BoundaryTests {
         law(x, 2, "0");
         law(x, 3, "a&g=3");
         due("29: 16 by 16 is 1: the last pair", x.parts(0, 0), 33);
+        x.shade(0, 10, 15);
+        law(x, 3, "a&g>3");
+        due("29: there is no glass 4", x.parts(0, 1), 1);
     }
 
     // Terms: PARTS "(no DARKENING, no AIR, nothing shown)"
